@@ -1,0 +1,1176 @@
+import java.util.ArrayList;
+import java.util.Arrays;
+import java.util.NoSuchElementException;
+
+/**
+ * Feet of bridges in a river: minds (whole stories of a pier), the looks that put minds aside,
+ * and what is sure by the minds that are kept. The words in capitals are those of the document.
+ */
+public final class RiverFeet {
+    public static final int NONE = -1;
+
+    private static final int DAYS = 400;
+    private static final int MINDS = 64;
+    private static final int STRENGTHS = 8;
+    private static final int FILLINGS = 8;
+    private static final int DEEPEST = 200;
+    private static final int MOST_FLOW = 99;
+    private static final int MOST_ENTRIES = 60;
+    private static final int MOST_BEDS = 4;
+    private static final int MOST_PIERS = 8;
+    private static final int MOST_WIDTH = 20;
+    private static final int MOST_TREES = 20;
+    private static final int MOST_LOOKS = 40;
+    private static final int MOST_ERRS = 50;
+    private static final int MOST_DAYS_PLANNED = 6;
+    private static final int MOST_LOOKS_PLANNED = 3;
+    private static final int MOST_STEPS = 64;
+    private static final int MOST_BRIDGES = 4;
+    private static final int MOST_DAYS_RUN = 60;
+    private static final int MOST_OFFERS = 10;
+    private static final int ALL_STRENGTHS = 255;
+    private static final int STANDS = 0;
+    private static final int FALLEN = 2;
+
+    private final int[] flow = new int[DAYS];
+    private final ArrayList<Pier> piers = new ArrayList<>();
+    private final ArrayList<Look> looks = new ArrayList<>();
+    private final ArrayList<Bridge> bridges = new ArrayList<>();
+    private final ArrayList<Offer> offers = new ArrayList<>();
+    private final Numbers told = new Numbers();
+    private final Steps steps = new Steps();
+    private final Ahead ahead = new Ahead();
+    private final Watch watch = new Watch();
+    private final int[] lacking = new int[MOST_PIERS];
+    private final int[] gained = new int[MOST_PIERS];
+    private int beds = 0;
+    private int trees = 0;
+    private int asDay = DAYS - 1;
+
+    public RiverFeet() {
+    }
+
+    // ---- the river
+
+    public int flows(int day, int kind, int n, int f, int step) {
+        if (!isDay(day) || !within(kind, 0, 3) || n > MOST_ENTRIES) {
+            return NONE;
+        }
+        if (kind == 3) {
+            return -3;
+        }
+        if (n < 0) {
+            return -2;
+        }
+        int entry = f;
+        for (int i = 0; i < n && day + i < DAYS; i++) {
+            flow[day + i] = Math.max(0, Math.min(MOST_FLOW, asSheetHolds(entry, kind)));
+            entry += step;
+        }
+        if (n > 0) {
+            forgetFrom(day);
+        }
+        return n;
+    }
+
+    private static int asSheetHolds(int entry, int kind) {
+        if (kind == 0) {
+            return (byte) entry;
+        }
+        return kind == 1 ? (short) entry : entry;
+    }
+
+    private void forgetFrom(int day) {
+        for (int i = 0; i < piers.size(); i++) {
+            piers.get(i).forgetFrom(day);
+        }
+    }
+
+    public int flow(int day) {
+        return isDay(day) ? flow[day] : NONE;
+    }
+
+    public int bed() {
+        if (beds >= MOST_BEDS) {
+            return NONE;
+        }
+        beds++;
+        return beds - 1;
+    }
+
+    public int pier(int bed, int width, int rock, int foot, int piles) {
+        boolean right = within(bed, 0, beds - 1) && within(width, 1, MOST_WIDTH)
+                && within(rock, 1, DEEPEST) && within(foot, 0, 99) && within(piles, 0, 99);
+        if (!right || piers.size() >= MOST_PIERS) {
+            return NONE;
+        }
+        piers.add(new Pier(bed, width, rock, foot, piles, flow));
+        return piers.size() - 1;
+    }
+
+    public int tree(int pier, int day, int wider) {
+        Pier at = pierOf(pier);
+        if (at == null || !isDay(day) || !within(wider, 1, 20) || trees >= MOST_TREES) {
+            return NONE;
+        }
+        at.widen(day, wider);
+        trees++;
+        return trees;
+    }
+
+    // ---- minds
+
+    public int hole(int pier, int mind, int day, int what) {
+        Pier at = pierOf(pier);
+        if (at == null || !isMind(mind) || !isDay(day)) {
+            return NONE;
+        }
+        switch (what) {
+            case 0:
+                return at.holeBy(mind, day);
+            case 1:
+                return at.everBy(mind, day);
+            case 2:
+                return at.goalBy(mind, day);
+            case 3:
+                return at.stateBy(mind, day);
+            default:
+                return NONE;
+        }
+    }
+
+    public int when(int pier, int mind, int what) {
+        Pier at = pierOf(pier);
+        if (at == null || !isMind(mind) || !within(what, 0, 1)) {
+            return NONE;
+        }
+        int least = what == 0 ? STANDS + 1 : FALLEN;
+        for (int day = 0; day < DAYS; day++) {
+            if (at.stateBy(mind, day) >= least) {
+                return day;
+            }
+        }
+        return NONE;
+    }
+
+    public int kept(int pier, int mind) {
+        Pier at = pierOf(pier);
+        if (at == null || !isMind(mind)) {
+            return NONE;
+        }
+        if (!holds(at.freeMinds(asDay), mind)) {
+            return 0;
+        }
+        return holds(keptMinds(at, asDay), mind) ? 1 : 2;
+    }
+
+    public int minds(int pier) {
+        Pier at = pierOf(pier);
+        if (at == null) {
+            return NONE;
+        }
+        long minds = keptMinds(at, asDay);
+        told.clear();
+        for (int mind = 0; mind < MINDS; mind++) {
+            if (holds(minds, mind)) {
+                told.put(mind);
+            }
+        }
+        return Long.bitCount(minds);
+    }
+
+    public int shared(int bed) {
+        return within(bed, 0, beds - 1) ? sharedStrengths(bed, asDay) : NONE;
+    }
+
+    private long keptMinds(Pier pier, int onDay) {
+        return pier.freeMinds(onDay) & mindsOfStrengths(sharedStrengths(pier.bed, onDay));
+    }
+
+    /** The A (as bits, A less 1) for which each pier of a bed has a free mind: so the beds carry what looks say. */
+    private int sharedStrengths(int bed, int onDay) {
+        int all = ALL_STRENGTHS;
+        for (int i = 0; i < piers.size(); i++) {
+            Pier pier = piers.get(i);
+            if (pier.bed == bed) {
+                all &= strengthsOfMinds(pier.freeMinds(onDay));
+            }
+        }
+        return all;
+    }
+
+    private static int strengthsOfMinds(long minds) {
+        int strengths = 0;
+        for (int a = 0; a < STRENGTHS; a++) {
+            if ((minds >>> (FILLINGS * a) & 255L) != 0) {
+                strengths |= 1 << a;
+            }
+        }
+        return strengths;
+    }
+
+    private static long mindsOfStrengths(int strengths) {
+        long minds = 0;
+        for (int a = 0; a < STRENGTHS; a++) {
+            if ((strengths >> a & 1) != 0) {
+                minds |= 255L << (FILLINGS * a);
+            }
+        }
+        return minds;
+    }
+
+    // ---- looks
+
+    public int look(int pier, int day, int seen, int errs, int known) {
+        Pier at = pierOf(pier);
+        boolean right = at != null && isDay(day) && within(seen, 0, DEEPEST)
+                && within(errs, 0, MOST_ERRS) && isDay(known) && known >= day;
+        if (!right || looks.size() >= MOST_LOOKS) {
+            return NONE;
+        }
+        Look look = new Look(looks.size(), at, day, seen, errs, known);
+        looks.add(look);
+        at.looks.add(look);
+        return look.number;
+    }
+
+    public boolean back(int look, int day) {
+        Look which = lookOf(look);
+        if (which == null || !isDay(day)) {
+            return false;
+        }
+        which.backFrom = day;
+        return true;
+    }
+
+    public int as(int day) {
+        if (!isDay(day)) {
+            return NONE;
+        }
+        int was = asDay;
+        asDay = day;
+        return was;
+    }
+
+    public int bars(int look) {
+        Look which = lookOf(look);
+        return which == null ? NONE : Long.bitCount(which.barredMinds());
+    }
+
+    public int weighs(int look) {
+        Look which = lookOf(look);
+        if (which == null || !which.isKnown(asDay)) {
+            return NONE;
+        }
+        long barredByOthers = 0;
+        for (int i = 0; i < which.pier.looks.size(); i++) {
+            Look other = which.pier.looks.get(i);
+            if (other != which && other.isKnown(asDay)) {
+                barredByOthers |= other.barredMinds();
+            }
+        }
+        return Long.bitCount(which.barredMinds() & ~barredByOthers);
+    }
+
+    public int blame(int pier) {
+        Pier at = pierOf(pier);
+        if (at == null) {
+            return NONE;
+        }
+        int fewest = MOST_LOOKS + 1;
+        int first = 0;
+        for (int mind = 0; mind < MINDS; mind++) {
+            int barring = at.howManyBar(mind, asDay);
+            if (barring < fewest) {
+                fewest = barring;
+                first = mind;
+            }
+        }
+        told.clear();
+        told.put(first);
+        for (int i = 0; i < at.looks.size(); i++) {
+            Look look = at.looks.get(i);
+            if (look.barsKnown(first, asDay)) {
+                told.put(look.number);
+            }
+        }
+        return fewest;
+    }
+
+    // ---- what is sure
+
+    public int state(int pier, int day) {
+        Pier at = pierOf(pier);
+        if (at == null || !isDay(day)) {
+            return NONE;
+        }
+        long minds = keptMinds(at, asDay);
+        if (minds == 0) {
+            return 4;
+        }
+        for (int state = STANDS; state <= FALLEN; state++) {
+            if (at.mindsInState(minds, day, state) == minds) {
+                return state;
+            }
+        }
+        return 3;
+    }
+
+    public int ends(int pier, int day) {
+        Pier at = pierOf(pier);
+        if (at == null || !isDay(day)) {
+            return NONE;
+        }
+        long minds = keptMinds(at, asDay);
+        if (minds == 0) {
+            return NONE;
+        }
+        int leastHole = DEEPEST;
+        int mostHole = 0;
+        int leastEver = DEEPEST;
+        for (int mind = 0; mind < MINDS; mind++) {
+            if (holds(minds, mind)) {
+                int hole = at.holeBy(mind, day);
+                leastHole = Math.min(leastHole, hole);
+                mostHole = Math.max(mostHole, hole);
+                leastEver = Math.min(leastEver, at.everBy(mind, day));
+            }
+        }
+        told.clear();
+        told.put(leastHole);
+        told.put(mostHole);
+        told.put(leastEver);
+        told.put(at.greatestEver(minds, day));
+        return Long.bitCount(minds);
+    }
+
+    public int share(int pier, int day, int question) {
+        Pier at = pierOf(pier);
+        if (at == null || !isDay(day) || !within(question, 0, 1)) {
+            return NONE;
+        }
+        long minds = keptMinds(at, asDay);
+        int many = Long.bitCount(minds);
+        return many == 0 ? NONE : 1000 * Long.bitCount(at.mindsThatSayYes(minds, day, question)) / many;
+    }
+
+    // ---- looks to come
+
+    public int worst(int pier, int day, int errs) {
+        Pier at = pierOf(pier);
+        if (at == null || !isDay(day) || !within(errs, 0, MOST_ERRS)) {
+            return NONE;
+        }
+        long minds = keptMinds(at, asDay);
+        return minds == 0 ? NONE : ahead.mostLeft(at, minds, day, errs);
+    }
+
+    public int next(int pier, int from, int to, int errs) {
+        Pier at = pierOf(pier);
+        if (at == null || !isDay(from) || !isDay(to) || to < from || !within(errs, 0, MOST_ERRS)) {
+            return NONE;
+        }
+        long minds = keptMinds(at, asDay);
+        if (minds == 0) {
+            return NONE;
+        }
+        int least = MINDS + 1;
+        int first = from;
+        for (int day = from; day <= to && least > 1; day++) {
+            int most = ahead.mostLeft(at, minds, day, errs);
+            if (most < least) {
+                least = most;
+                first = day;
+            }
+        }
+        told.clear();
+        told.put(least);
+        return first;
+    }
+
+    public int plan(int pier, int from, int by, int many, int k, int errs) {
+        Pier at = pierOf(pier);
+        if (at == null || !isRowOfDays(from, by, many) || !within(k, 1, MOST_LOOKS_PLANNED)
+                || !within(errs, 0, MOST_ERRS)) {
+            return NONE;
+        }
+        long minds = keptMinds(at, asDay);
+        if (minds == 0) {
+            return NONE;
+        }
+        prepareAhead(at, minds, from, by, many, errs);
+        int least = ahead.planFrom(minds, k);
+        told.clear();
+        told.put(ahead.firstSlot == NONE ? NONE : from + by * ahead.firstSlot);
+        return least;
+    }
+
+    public int settles(int pier, int question, int day, int from, int by, int many, int errs) {
+        Pier at = pierOf(pier);
+        if (at == null || !within(question, 0, 1) || !isDay(day) || !isRowOfDays(from, by, many)
+                || !within(errs, 0, MOST_ERRS)) {
+            return NONE;
+        }
+        long minds = keptMinds(at, asDay);
+        if (minds == 0) {
+            return NONE;
+        }
+        prepareAhead(at, minds, from, by, many, errs);
+        long yes = at.mindsThatSayYes(minds, day, question);
+        for (int k = 0; k <= MOST_LOOKS_PLANNED; k++) {
+            if (ahead.canSettle(minds, yes, 0, k)) {
+                return k;
+            }
+        }
+        return -2;
+    }
+
+    private static boolean isRowOfDays(int from, int by, int many) {
+        return isDay(from) && within(by, 1, 50) && within(many, 1, MOST_DAYS_PLANNED)
+                && isDay(from + by * (many - 1));
+    }
+
+    private void prepareAhead(Pier pier, long minds, int from, int by, int many, int errs) {
+        ahead.clear();
+        for (int i = 0; i < many; i++) {
+            ahead.addDay(pier, minds, from + by * i, errs);
+        }
+    }
+
+    // ---- proofs
+
+    public int prove(int mind, int look) {
+        if (!isMind(mind) || !within(look, 0, MOST_LOOKS - 1) || steps.many >= MOST_STEPS) {
+            return NONE;
+        }
+        steps.add(mind, look);
+        return steps.many;
+    }
+
+    public int check(int pier) {
+        int many = steps.many;
+        steps.clear();
+        Pier at = pierOf(pier);
+        if (at == null) {
+            return -100;
+        }
+        long proved = 0;
+        for (int i = 0; i < many; i++) {
+            int mind = steps.mind[i];
+            Look look = lookOf(steps.look[i]);
+            if (look == null || look.pier != at || !look.barsKnown(mind, asDay) || holds(proved, mind)) {
+                return -1 - i;
+            }
+            proved |= 1L << mind;
+        }
+        return (proved | at.freeMinds(asDay)) == -1L ? 0 : 1;
+    }
+
+    public int lay(int pier) {
+        Pier at = pierOf(pier);
+        if (at == null) {
+            return NONE;
+        }
+        steps.clear();
+        for (int mind = 0; mind < MINDS; mind++) {
+            int look = at.firstThatBars(mind, asDay);
+            if (look != NONE) {
+                steps.add(mind, look);
+            }
+        }
+        return steps.many;
+    }
+
+    public int proof(int i, int what) {
+        if (!within(i, 0, steps.many - 1) || !within(what, 0, 1)) {
+            return NONE;
+        }
+        return what == 0 ? steps.mind[i] : steps.look[i];
+    }
+
+    // ---- bridges
+
+    public int bridge(int piers, int traffic) {
+        boolean right = within(piers, 1, (1 << this.piers.size()) - 1) && within(traffic, 0, 999);
+        if (!right || bridges.size() >= MOST_BRIDGES) {
+            return NONE;
+        }
+        bridges.add(new Bridge(piers, traffic));
+        return bridges.size() - 1;
+    }
+
+    public int truth(int pier, int mind) {
+        Pier at = pierOf(pier);
+        if (at == null || !isMind(mind)) {
+            return NONE;
+        }
+        int was = at.trueMind;
+        at.trueMind = mind;
+        return was;
+    }
+
+    public int shut(int bridge, int day, int p) {
+        Bridge over = bridgeOf(bridge);
+        if (over == null || !isDay(day) || !within(p, 0, 1000)) {
+            return NONE;
+        }
+        return p < openFrom(over, day) ? 1 : 0;
+    }
+
+    public int run(int bridge, int from, int to, int p) {
+        Bridge over = bridgeOf(bridge);
+        if (over == null || !isRun(from, to) || !within(p, 0, 1000)) {
+            return NONE;
+        }
+        watchDays(over, from, to);
+        int shutDays = watch.shutDays(p);
+        told.clear();
+        told.put(watch.lateDays(p));
+        told.put(watch.falseDays(p));
+        told.put(over.traffic * shutDays);
+        return shutDays;
+    }
+
+    public int best(int bridge, int from, int to, int weight) {
+        Bridge over = bridgeOf(bridge);
+        if (over == null || !isRun(from, to) || !within(weight, 0, 9999)) {
+            return NONE;
+        }
+        watchDays(over, from, to);
+        int bestShare = 0;
+        int least = Integer.MAX_VALUE;
+        for (int p = 0; p <= 1000; p += 100) {
+            int sum = over.traffic * watch.shutDays(p) + weight * watch.lateDays(p);
+            if (sum <= least) {
+                least = sum;
+                bestShare = p;
+            }
+        }
+        told.clear();
+        told.put(least);
+        return bestShare;
+    }
+
+    private static boolean isRun(int from, int to) {
+        return isDay(from) && isDay(to) && from <= to && to - from < MOST_DAYS_RUN;
+    }
+
+    private void watchDays(Bridge bridge, int from, int to) {
+        watch.clear();
+        for (int day = from; day <= to; day++) {
+            watch.addDay(openFrom(bridge, day), worstByTruth(bridge, day));
+        }
+    }
+
+    /** The least share by which a bridge is open on a day; 1001 where a pier quarrels, as no share opens it then. */
+    private int openFrom(Bridge bridge, int day) {
+        int least = 0;
+        for (int i = 0; i < piers.size(); i++) {
+            if (bridge.has(i)) {
+                least = Math.max(least, openFrom(piers.get(i), day));
+            }
+        }
+        return least;
+    }
+
+    private int openFrom(Pier pier, int day) {
+        long minds = keptMinds(pier, day);
+        int many = Long.bitCount(minds);
+        if (many == 0) {
+            return 1001;
+        }
+        int notStanding = many - Long.bitCount(pier.mindsInState(minds, day, STANDS));
+        return (1000 * notStanding + many - 1) / many;
+    }
+
+    private int worstByTruth(Bridge bridge, int day) {
+        int worst = STANDS;
+        for (int i = 0; i < piers.size(); i++) {
+            if (bridge.has(i)) {
+                Pier pier = piers.get(i);
+                worst = Math.max(worst, pier.stateBy(pier.trueMind, day));
+            }
+        }
+        return worst;
+    }
+
+    // ---- works
+
+    public int offer(int pier, int more, int cost) {
+        if (pierOf(pier) == null || !within(more, 1, 99) || !within(cost, 1, 999)
+                || offers.size() >= MOST_OFFERS) {
+            return NONE;
+        }
+        offers.add(new Offer(pier, more, cost));
+        return offers.size();
+    }
+
+    public int choose(int money, int day) {
+        if (!within(money, 0, 9999) || !isDay(day)) {
+            return NONE;
+        }
+        findLacking(day);
+        int most = NONE;
+        int leastCost = 0;
+        int bits = 0;
+        for (int set = 0; set < 1 << offers.size(); set++) {
+            int cost = costOf(set);
+            if (cost <= money) {
+                int sure = sureWith(set);
+                if (sure > most || sure == most && cost < leastCost) {
+                    most = sure;
+                    leastCost = cost;
+                    bits = set;
+                }
+            }
+        }
+        told.clear();
+        told.put(bits);
+        told.put(leastCost);
+        return most;
+    }
+
+    /** Of each pier how many piles more make it surely not fallen; of one that quarrels more than all offers give. */
+    private void findLacking(int day) {
+        for (int i = 0; i < piers.size() && i < lacking.length; i++) {
+            Pier pier = piers.get(i);
+            long minds = keptMinds(pier, asDay);
+            lacking[i] = minds == 0 ? Integer.MAX_VALUE : pier.greatestEver(minds, day) - pier.foot - pier.piles;
+        }
+    }
+
+    private int costOf(int set) {
+        int cost = 0;
+        for (int i = 0; i < offers.size(); i++) {
+            if ((set >> i & 1) != 0) {
+                cost += offers.get(i).cost;
+            }
+        }
+        return cost;
+    }
+
+    private int sureWith(int set) {
+        Arrays.fill(gained, 0);
+        for (int i = 0; i < offers.size(); i++) {
+            if ((set >> i & 1) != 0) {
+                Offer offer = offers.get(i);
+                gained[offer.pier] += offer.more;
+            }
+        }
+        int sure = 0;
+        for (int i = 0; i < piers.size() && i < lacking.length; i++) {
+            if (gained[i] >= lacking[i]) {
+                sure++;
+            }
+        }
+        return sure;
+    }
+
+    public int count(int what) {
+        switch (what) {
+            case 0:
+                return beds;
+            case 1:
+                return piers.size();
+            case 2:
+                return trees;
+            case 3:
+                return looks.size();
+            case 4:
+                return knownLooks();
+            case 5:
+                return asDay;
+            case 6:
+                return steps.many;
+            case 7:
+                return bridges.size();
+            case 8:
+                return offers.size();
+            case 9:
+                return told.many;
+            case 10:
+                return quarrelling();
+            default:
+                return NONE;
+        }
+    }
+
+    private int knownLooks() {
+        int many = 0;
+        for (int i = 0; i < looks.size(); i++) {
+            if (looks.get(i).isKnown(asDay)) {
+                many++;
+            }
+        }
+        return many;
+    }
+
+    private int quarrelling() {
+        int many = 0;
+        for (int i = 0; i < piers.size(); i++) {
+            if (keptMinds(piers.get(i), asDay) == 0) {
+                many++;
+            }
+        }
+        return many;
+    }
+
+    public int row(int i) throws NoSuchElementException {
+        if (!within(i, 0, told.many - 1)) {
+            throw new NoSuchElementException("no such number of the row");
+        }
+        return told.number[i];
+    }
+
+    // ---- what there is
+
+    private static boolean within(int n, int least, int most) {
+        return n >= least && n <= most;
+    }
+
+    private static boolean isDay(int day) {
+        return within(day, 0, DAYS - 1);
+    }
+
+    private static boolean isMind(int mind) {
+        return within(mind, 0, MINDS - 1);
+    }
+
+    private static boolean holds(long minds, int mind) {
+        return (minds >>> mind & 1L) != 0;
+    }
+
+    private Pier pierOf(int n) {
+        return within(n, 0, piers.size() - 1) ? piers.get(n) : null;
+    }
+
+    private Look lookOf(int n) {
+        return within(n, 0, looks.size() - 1) ? looks.get(n) : null;
+    }
+
+    private Bridge bridgeOf(int n) {
+        return within(n, 0, bridges.size() - 1) ? bridges.get(n) : null;
+    }
+
+    /** A pier with the stories of its minds, each told as far as somebody asked. */
+    private static final class Pier {
+        final int bed;
+        final int rock;
+        final int foot;
+        final int piles;
+        final int[] flow;
+        final int[] width = new int[DAYS];
+        /** Of each mind and day 256 times EVER, and HOLE. */
+        final int[] story = new int[MINDS * DAYS];
+        final int[] daysTold = new int[MINDS];
+        final ArrayList<Look> looks = new ArrayList<>();
+        int trueMind = 0;
+
+        Pier(int bed, int width, int rock, int foot, int piles, int[] flow) {
+            this.bed = bed;
+            this.rock = rock;
+            this.foot = foot;
+            this.piles = piles;
+            this.flow = flow;
+            Arrays.fill(this.width, width);
+        }
+
+        void widen(int from, int wider) {
+            for (int day = from; day < DAYS; day++) {
+                width[day] += wider;
+            }
+            forgetFrom(from);
+        }
+
+        void forgetFrom(int day) {
+            for (int mind = 0; mind < MINDS; mind++) {
+                daysTold[mind] = Math.min(daysTold[mind], day);
+            }
+            for (int i = 0; i < looks.size(); i++) {
+                Look look = looks.get(i);
+                if (look.day >= day) {
+                    look.fresh = false;
+                }
+            }
+        }
+
+        int goalBy(int mind, int day) {
+            int a = mind / FILLINGS + 1;
+            return Math.min(rock, a * flow[day] * width[day] / 100);
+        }
+
+        int holeBy(int mind, int day) {
+            return storyBy(mind, day) & 255;
+        }
+
+        int everBy(int mind, int day) {
+            return storyBy(mind, day) >> 8;
+        }
+
+        int stateBy(int mind, int day) {
+            int ever = everBy(mind, day);
+            if (ever <= foot) {
+                return STANDS;
+            }
+            return ever <= foot + piles ? STANDS + 1 : FALLEN;
+        }
+
+        private int storyBy(int mind, int day) {
+            if (daysTold[mind] <= day) {
+                tellUpTo(mind, day);
+            }
+            return story[mind * DAYS + day];
+        }
+
+        private void tellUpTo(int mind, int last) {
+            int first = daysTold[mind];
+            int before = first > 0 ? story[mind * DAYS + first - 1] : 0;
+            int hole = before & 255;
+            int ever = before >> 8;
+            for (int day = first; day <= last; day++) {
+                int rest = goalBy(mind, day) - hole;
+                hole += rest > 0 ? (rest + 1) / 2 : -(-rest * (mind % FILLINGS) / 8);
+                ever = Math.max(ever, hole);
+                story[mind * DAYS + day] = ever << 8 | hole;
+            }
+            daysTold[mind] = last + 1;
+        }
+
+        int greatestEver(long minds, int day) {
+            int greatest = 0;
+            for (int mind = 0; mind < MINDS; mind++) {
+                if (holds(minds, mind)) {
+                    greatest = Math.max(greatest, everBy(mind, day));
+                }
+            }
+            return greatest;
+        }
+
+        long mindsInState(long minds, int day, int state) {
+            long found = 0;
+            for (int mind = 0; mind < MINDS; mind++) {
+                if (holds(minds, mind) && stateBy(mind, day) == state) {
+                    found |= 1L << mind;
+                }
+            }
+            return found;
+        }
+
+        long mindsThatSayYes(long minds, int day, int question) {
+            return mindsInState(minds, day, question == 0 ? STANDS : FALLEN);
+        }
+
+        long freeMinds(int onDay) {
+            long barred = 0;
+            for (int i = 0; i < looks.size(); i++) {
+                Look look = looks.get(i);
+                if (look.isKnown(onDay)) {
+                    barred |= look.barredMinds();
+                }
+            }
+            return ~barred;
+        }
+
+        int howManyBar(int mind, int onDay) {
+            int many = 0;
+            for (int i = 0; i < looks.size(); i++) {
+                if (looks.get(i).barsKnown(mind, onDay)) {
+                    many++;
+                }
+            }
+            return many;
+        }
+
+        int firstThatBars(int mind, int onDay) {
+            for (int i = 0; i < looks.size(); i++) {
+                if (looks.get(i).barsKnown(mind, onDay)) {
+                    return looks.get(i).number;
+                }
+            }
+            return NONE;
+        }
+    }
+
+    /** A look; which minds it bars is kept until flows or trees change what it looked at. */
+    private static final class Look {
+        final int number;
+        final Pier pier;
+        final int day;
+        final int seen;
+        final int errs;
+        final int known;
+        int backFrom = DAYS;
+        boolean fresh = false;
+        long barred = 0;
+
+        Look(int number, Pier pier, int day, int seen, int errs, int known) {
+            this.number = number;
+            this.pier = pier;
+            this.day = day;
+            this.seen = seen;
+            this.errs = errs;
+            this.known = known;
+        }
+
+        boolean isKnown(int onDay) {
+            return known <= onDay && onDay < backFrom;
+        }
+
+        boolean barsKnown(int mind, int onDay) {
+            return isKnown(onDay) && holds(barredMinds(), mind);
+        }
+
+        long barredMinds() {
+            if (!fresh) {
+                barred = findBarred();
+                fresh = true;
+            }
+            return barred;
+        }
+
+        private long findBarred() {
+            long found = 0;
+            for (int mind = 0; mind < MINDS; mind++) {
+                if (Math.abs(pier.holeBy(mind, day) - seen) > errs) {
+                    found |= 1L << mind;
+                }
+            }
+            return found;
+        }
+    }
+
+    /**
+     * Looks to come at a pier. Each day of the row is a slot; each different hole that minds have on it
+     * is a sight, with the minds that have it and the minds that it leaves.
+     */
+    private static final class Ahead {
+        final long[] having = new long[MOST_DAYS_PLANNED * MINDS];
+        final long[] leaving = new long[MOST_DAYS_PLANNED * MINDS];
+        final int[] sights = new int[MOST_DAYS_PLANNED];
+        /** At h: the minds whose hole is h; then at h + 1 of notAbove: those whose hole is not above h. */
+        final long[] withHole = new long[DEEPEST + 1];
+        final long[] notAbove = new long[DEEPEST + 2];
+        int slots = 0;
+        int firstSlot = NONE;
+
+        void clear() {
+            slots = 0;
+        }
+
+        void addDay(Pier pier, long minds, int day, int errs) {
+            if (slots >= MOST_DAYS_PLANNED) {
+                return;
+            }
+            sortByHole(pier, minds, day);
+            int many = 0;
+            for (int hole = 0; hole <= DEEPEST && many < MINDS; hole++) {
+                if (withHole[hole] != 0) {
+                    int last = Math.min(DEEPEST, hole + errs);
+                    int first = Math.max(0, hole - errs);
+                    having[slots * MINDS + many] = withHole[hole];
+                    leaving[slots * MINDS + many] = notAbove[last + 1] & ~notAbove[first];
+                    many++;
+                }
+            }
+            sights[slots] = many;
+            slots++;
+        }
+
+        private void sortByHole(Pier pier, long minds, int day) {
+            Arrays.fill(withHole, 0L);
+            for (int mind = 0; mind < MINDS; mind++) {
+                if (holds(minds, mind)) {
+                    withHole[pier.holeBy(mind, day)] |= 1L << mind;
+                }
+            }
+            for (int hole = 0; hole <= DEEPEST; hole++) {
+                notAbove[hole + 1] = notAbove[hole] | withHole[hole];
+            }
+        }
+
+        int mostLeft(Pier pier, long minds, int day, int errs) {
+            clear();
+            addDay(pier, minds, day, errs);
+            int most = 0;
+            for (int i = 0; i < sights[0]; i++) {
+                most = Math.max(most, Long.bitCount(leaving[i]));
+            }
+            return most;
+        }
+
+        /** The worst of the best plan; firstSlot becomes where it begins. */
+        int planFrom(long minds, int looks) {
+            int least = Long.bitCount(minds);
+            firstSlot = NONE;
+            for (int slot = 0; slot < slots && least > 1; slot++) {
+                int worst = worstBehind(minds, slot, looks, 1, least);
+                if (worst < least) {
+                    least = worst;
+                    firstSlot = slot;
+                }
+            }
+            return least;
+        }
+
+        /**
+         * The worst of the best plan from a slot on. What is not above floor may be told as floor,
+         * and what is not below enough as enough: neither changes what the caller chooses.
+         */
+        private int leastWorst(long minds, int from, int looks, int floor, int enough) {
+            int least = Math.min(enough, Long.bitCount(minds));
+            if (looks <= 0) {
+                return least;
+            }
+            for (int slot = from; slot < slots && least > floor; slot++) {
+                least = Math.min(least, worstBehind(minds, slot, looks, floor, least));
+            }
+            return least;
+        }
+
+        private int worstBehind(long minds, int slot, int looks, int floor, int enough) {
+            int worst = floor;
+            for (int i = slot * MINDS; i < slot * MINDS + sights[slot] && worst < enough; i++) {
+                if ((minds & having[i]) != 0) {
+                    int then = leastWorst(minds & leaving[i], slot + 1, looks - 1, worst, enough);
+                    worst = Math.max(worst, then);
+                }
+            }
+            return worst;
+        }
+
+        boolean canSettle(long minds, long yes, int from, int looks) {
+            if ((minds & yes) == 0 || (minds & ~yes) == 0) {
+                return true;
+            }
+            if (looks <= 0) {
+                return false;
+            }
+            for (int slot = from; slot < slots; slot++) {
+                if (settlesBehind(minds, yes, slot, looks)) {
+                    return true;
+                }
+            }
+            return false;
+        }
+
+        private boolean settlesBehind(long minds, long yes, int slot, int looks) {
+            for (int i = slot * MINDS; i < slot * MINDS + sights[slot]; i++) {
+                if ((minds & having[i]) != 0 && !canSettle(minds & leaving[i], yes, slot + 1, looks - 1)) {
+                    return false;
+                }
+            }
+            return true;
+        }
+    }
+
+    /** Days of a bridge: from which share on each is open, and how the worst of its piers is by truth. */
+    private static final class Watch {
+        final int[] opens = new int[MOST_DAYS_RUN];
+        final int[] worst = new int[MOST_DAYS_RUN];
+        int days = 0;
+
+        void clear() {
+            days = 0;
+        }
+
+        void addDay(int openFrom, int worstByTruth) {
+            if (days < MOST_DAYS_RUN) {
+                opens[days] = openFrom;
+                worst[days] = worstByTruth;
+                days++;
+            }
+        }
+
+        int shutDays(int p) {
+            int many = 0;
+            for (int i = 0; i < days; i++) {
+                if (p < opens[i]) {
+                    many++;
+                }
+            }
+            return many;
+        }
+
+        int lateDays(int p) {
+            int many = 0;
+            for (int i = 0; i < days; i++) {
+                if (p >= opens[i] && worst[i] == FALLEN) {
+                    many++;
+                }
+            }
+            return many;
+        }
+
+        int falseDays(int p) {
+            int many = 0;
+            for (int i = 0; i < days; i++) {
+                if (p < opens[i] && worst[i] == STANDS) {
+                    many++;
+                }
+            }
+            return many;
+        }
+    }
+
+    private static final class Bridge {
+        final int piers;
+        final int traffic;
+
+        Bridge(int piers, int traffic) {
+            this.piers = piers;
+            this.traffic = traffic;
+        }
+
+        boolean has(int pier) {
+            return (piers >> pier & 1) != 0;
+        }
+    }
+
+    private static final class Offer {
+        final int pier;
+        final int more;
+        final int cost;
+
+        Offer(int pier, int more, int cost) {
+            this.pier = pier;
+            this.more = more;
+            this.cost = cost;
+        }
+    }
+
+    /** The steps of the proof. */
+    private static final class Steps {
+        final int[] mind = new int[MOST_STEPS];
+        final int[] look = new int[MOST_STEPS];
+        int many = 0;
+
+        void clear() {
+            many = 0;
+        }
+
+        void add(int aMind, int aLook) {
+            if (many < MOST_STEPS) {
+                mind[many] = aMind;
+                look[many] = aLook;
+                many++;
+            }
+        }
+    }
+
+    /** The row: the longest one told is that of all minds. */
+    private static final class Numbers {
+        final int[] number = new int[MINDS];
+        int many = 0;
+
+        void clear() {
+            many = 0;
+        }
+
+        void put(int n) {
+            if (many < MINDS) {
+                number[many] = n;
+                many++;
+            }
+        }
+    }
+}
