@@ -1029,10 +1029,13 @@ public final class RiverFeet {
 
         private int worstBehind(long minds, int slot, int looks, int floor, int enough) {
             int worst = floor;
+            long before = 0;
             for (int i = slot * MINDS; i < slot * MINDS + sights[slot] && worst < enough; i++) {
-                if ((minds & having[i]) != 0) {
-                    int then = leastWorst(minds & leaving[i], slot + 1, looks - 1, worst, enough);
-                    worst = Math.max(worst, then);
+                long left = (minds & having[i]) == 0 ? 0 : minds & leaving[i];
+                // fewer minds are never worse, so what lies within the sight before needs no look
+                if ((left & ~before) != 0) {
+                    worst = Math.max(worst, leastWorst(left, slot + 1, looks - 1, worst, enough));
+                    before = left;
                 }
             }
             return worst;
@@ -1054,9 +1057,14 @@ public final class RiverFeet {
         }
 
         private boolean settlesBehind(long minds, long yes, int slot, int looks) {
+            long before = 0;
             for (int i = slot * MINDS; i < slot * MINDS + sights[slot]; i++) {
-                if ((minds & having[i]) != 0 && !canSettle(minds & leaving[i], yes, slot + 1, looks - 1)) {
-                    return false;
+                long left = (minds & having[i]) == 0 ? 0 : minds & leaving[i];
+                if ((left & ~before) != 0) {
+                    if (!canSettle(left, yes, slot + 1, looks - 1)) {
+                        return false;
+                    }
+                    before = left;
                 }
             }
             return true;
