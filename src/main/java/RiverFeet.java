@@ -11,14 +11,15 @@ public final class RiverFeet {
 
     private static final int DAYS = 400;
     private static final int MINDS = 64;
-    private static final int STRENGTHS = 8;
-    private static final int FILLINGS = 8;
+    private static final int DIFFERENT_A = 8;
+    private static final int DIFFERENT_B = 8;
     private static final int DEEPEST = 200;
     private static final int MOST_FLOW = 99;
     private static final int MOST_ENTRIES = 60;
     private static final int MOST_BEDS = 4;
     private static final int MOST_PIERS = 8;
     private static final int MOST_WIDTH = 20;
+    private static final int MOST_WIDER = 20;
     private static final int MOST_TREES = 20;
     private static final int MOST_LOOKS = 40;
     private static final int MOST_ERRS = 50;
@@ -28,9 +29,12 @@ public final class RiverFeet {
     private static final int MOST_BRIDGES = 4;
     private static final int MOST_DAYS_RUN = 60;
     private static final int MOST_OFFERS = 10;
-    private static final int ALL_STRENGTHS = 255;
+    private static final int ALL_A = 255;
     private static final int STANDS = 0;
+    private static final int HANGS = 1;
     private static final int FALLEN = 2;
+    /** Above every share, and more piles than ten offers can give. */
+    private static final int NEVER = 1001;
 
     private final int[] flow = new int[DAYS];
     private final ArrayList<Pier> piers = new ArrayList<>();
@@ -41,6 +45,8 @@ public final class RiverFeet {
     private final Steps steps = new Steps();
     private final Ahead ahead = new Ahead();
     private final Watch watch = new Watch();
+    /** Of each bed (as bits, A less 1) the A for which each of its piers has a free mind. */
+    private final int[] sharedA = new int[MOST_BEDS];
     private final int[] lacking = new int[MOST_PIERS];
     private final int[] gained = new int[MOST_PIERS];
     private int beds = 0;
@@ -110,7 +116,7 @@ public final class RiverFeet {
 
     public int tree(int pier, int day, int wider) {
         Pier at = pierOf(pier);
-        if (at == null || !isDay(day) || !within(wider, 1, 20) || trees >= MOST_TREES) {
+        if (at == null || !isDay(day) || !within(wider, 1, MOST_WIDER) || trees >= MOST_TREES) {
             return NONE;
         }
         at.widen(day, wider);
@@ -125,6 +131,7 @@ public final class RiverFeet {
         if (at == null || !isMind(mind) || !isDay(day)) {
             return NONE;
         }
+        at.tellMind(mind, day);
         switch (what) {
             case 0:
                 return at.holeBy(mind, day);
@@ -144,7 +151,8 @@ public final class RiverFeet {
         if (at == null || !isMind(mind) || !within(what, 0, 1)) {
             return NONE;
         }
-        int least = what == 0 ? STANDS + 1 : FALLEN;
+        int least = what == 0 ? HANGS : FALLEN;
+        at.tellMind(mind, DAYS - 1);
         for (int day = 0; day < DAYS; day++) {
             if (at.stateBy(mind, day) >= least) {
                 return day;
@@ -158,10 +166,11 @@ public final class RiverFeet {
         if (at == null || !isMind(mind)) {
             return NONE;
         }
-        if (!holds(at.freeMinds(asDay), mind)) {
+        findKept(asDay);
+        if (!holds(at.free, mind)) {
             return 0;
         }
-        return holds(keptMinds(at, asDay), mind) ? 1 : 2;
+        return holds(at.kept, mind) ? 1 : 2;
     }
 
     public int minds(int pier) {
@@ -169,51 +178,59 @@ public final class RiverFeet {
         if (at == null) {
             return NONE;
         }
-        long minds = keptMinds(at, asDay);
+        findKept(asDay);
         told.clear();
         for (int mind = 0; mind < MINDS; mind++) {
-            if (holds(minds, mind)) {
+            if (holds(at.kept, mind)) {
                 told.put(mind);
             }
         }
-        return Long.bitCount(minds);
+        return Long.bitCount(at.kept);
     }
 
     public int shared(int bed) {
-        return within(bed, 0, beds - 1) ? sharedStrengths(bed, asDay) : NONE;
+        if (!within(bed, 0, beds - 1)) {
+            return NONE;
+        }
+        findKept(asDay);
+        return sharedA[bed];
     }
 
-    private long keptMinds(Pier pier, int onDay) {
-        return pier.freeMinds(onDay) & mindsOfStrengths(sharedStrengths(pier.bed, onDay));
-    }
-
-    /** The A (as bits, A less 1) for which each pier of a bed has a free mind: so the beds carry what looks say. */
-    private int sharedStrengths(int bed, int onDay) {
-        int all = ALL_STRENGTHS;
+    /**
+     * Finds what each look bars, and what is free and kept of each pier by the looks known on a day.
+     * Each call that asks for any of these does this first.
+     */
+    private void findKept(int onDay) {
+        for (int i = 0; i < looks.size(); i++) {
+            looks.get(i).freshen();
+        }
+        Arrays.fill(sharedA, ALL_A);
         for (int i = 0; i < piers.size(); i++) {
             Pier pier = piers.get(i);
-            if (pier.bed == bed) {
-                all &= strengthsOfMinds(pier.freeMinds(onDay));
-            }
+            pier.free = pier.freeMinds(onDay);
+            sharedA[pier.bed] &= bitsOfA(pier.free);
         }
-        return all;
+        for (int i = 0; i < piers.size(); i++) {
+            Pier pier = piers.get(i);
+            pier.kept = pier.free & mindsOfA(sharedA[pier.bed]);
+        }
     }
 
-    private static int strengthsOfMinds(long minds) {
-        int strengths = 0;
-        for (int a = 0; a < STRENGTHS; a++) {
-            if ((minds >>> (FILLINGS * a) & 255L) != 0) {
-                strengths |= 1 << a;
+    private static int bitsOfA(long minds) {
+        int bits = 0;
+        for (int a = 0; a < DIFFERENT_A; a++) {
+            if ((minds >>> (DIFFERENT_B * a) & 255L) != 0) {
+                bits |= 1 << a;
             }
         }
-        return strengths;
+        return bits;
     }
 
-    private static long mindsOfStrengths(int strengths) {
+    private static long mindsOfA(int bits) {
         long minds = 0;
-        for (int a = 0; a < STRENGTHS; a++) {
-            if ((strengths >> a & 1) != 0) {
-                minds |= 255L << (FILLINGS * a);
+        for (int a = 0; a < DIFFERENT_A; a++) {
+            if ((bits >> a & 1) != 0) {
+                minds |= 255L << (DIFFERENT_B * a);
             }
         }
         return minds;
@@ -254,7 +271,11 @@ public final class RiverFeet {
 
     public int bars(int look) {
         Look which = lookOf(look);
-        return which == null ? NONE : Long.bitCount(which.barredMinds());
+        if (which == null) {
+            return NONE;
+        }
+        which.freshen();
+        return Long.bitCount(which.barred);
     }
 
     public int weighs(int look) {
@@ -262,14 +283,15 @@ public final class RiverFeet {
         if (which == null || !which.isKnown(asDay)) {
             return NONE;
         }
+        findKept(asDay);
         long barredByOthers = 0;
         for (int i = 0; i < which.pier.looks.size(); i++) {
             Look other = which.pier.looks.get(i);
             if (other != which && other.isKnown(asDay)) {
-                barredByOthers |= other.barredMinds();
+                barredByOthers |= other.barred;
             }
         }
-        return Long.bitCount(which.barredMinds() & ~barredByOthers);
+        return Long.bitCount(which.barred & ~barredByOthers);
     }
 
     public int blame(int pier) {
@@ -277,6 +299,7 @@ public final class RiverFeet {
         if (at == null) {
             return NONE;
         }
+        findKept(asDay);
         int fewest = MOST_LOOKS + 1;
         int first = 0;
         for (int mind = 0; mind < MINDS; mind++) {
@@ -304,12 +327,12 @@ public final class RiverFeet {
         if (at == null || !isDay(day)) {
             return NONE;
         }
-        long minds = keptMinds(at, asDay);
-        if (minds == 0) {
+        findKept(asDay);
+        if (at.kept == 0) {
             return 4;
         }
         for (int state = STANDS; state <= FALLEN; state++) {
-            if (at.mindsInState(minds, day, state) == minds) {
+            if (at.mindsInState(at.kept, day, state) == at.kept) {
                 return state;
             }
         }
@@ -321,27 +344,33 @@ public final class RiverFeet {
         if (at == null || !isDay(day)) {
             return NONE;
         }
-        long minds = keptMinds(at, asDay);
-        if (minds == 0) {
+        findKept(asDay);
+        if (at.kept == 0) {
             return NONE;
         }
+        tellEnds(at, day);
+        return Long.bitCount(at.kept);
+    }
+
+    private void tellEnds(Pier at, int day) {
+        at.tellMinds(at.kept, day);
         int leastHole = DEEPEST;
-        int mostHole = 0;
+        int greatestHole = 0;
         int leastEver = DEEPEST;
+        int greatestEver = 0;
         for (int mind = 0; mind < MINDS; mind++) {
-            if (holds(minds, mind)) {
-                int hole = at.holeBy(mind, day);
-                leastHole = Math.min(leastHole, hole);
-                mostHole = Math.max(mostHole, hole);
+            if (holds(at.kept, mind)) {
+                leastHole = Math.min(leastHole, at.holeBy(mind, day));
+                greatestHole = Math.max(greatestHole, at.holeBy(mind, day));
                 leastEver = Math.min(leastEver, at.everBy(mind, day));
+                greatestEver = Math.max(greatestEver, at.everBy(mind, day));
             }
         }
         told.clear();
         told.put(leastHole);
-        told.put(mostHole);
+        told.put(greatestHole);
         told.put(leastEver);
-        told.put(at.greatestEver(minds, day));
-        return Long.bitCount(minds);
+        told.put(greatestEver);
     }
 
     public int share(int pier, int day, int question) {
@@ -349,9 +378,9 @@ public final class RiverFeet {
         if (at == null || !isDay(day) || !within(question, 0, 1)) {
             return NONE;
         }
-        long minds = keptMinds(at, asDay);
-        int many = Long.bitCount(minds);
-        return many == 0 ? NONE : 1000 * Long.bitCount(at.mindsThatSayYes(minds, day, question)) / many;
+        findKept(asDay);
+        int many = Long.bitCount(at.kept);
+        return many == 0 ? NONE : 1000 * Long.bitCount(at.mindsThatSayYes(at.kept, day, question)) / many;
     }
 
     // ---- looks to come
@@ -361,8 +390,8 @@ public final class RiverFeet {
         if (at == null || !isDay(day) || !within(errs, 0, MOST_ERRS)) {
             return NONE;
         }
-        long minds = keptMinds(at, asDay);
-        return minds == 0 ? NONE : ahead.mostLeft(at, minds, day, errs);
+        findKept(asDay);
+        return at.kept == 0 ? NONE : ahead.mostLeft(at, day, errs);
     }
 
     public int next(int pier, int from, int to, int errs) {
@@ -370,14 +399,14 @@ public final class RiverFeet {
         if (at == null || !isDay(from) || !isDay(to) || to < from || !within(errs, 0, MOST_ERRS)) {
             return NONE;
         }
-        long minds = keptMinds(at, asDay);
-        if (minds == 0) {
+        findKept(asDay);
+        if (at.kept == 0) {
             return NONE;
         }
         int least = MINDS + 1;
         int first = from;
         for (int day = from; day <= to && least > 1; day++) {
-            int most = ahead.mostLeft(at, minds, day, errs);
+            int most = ahead.mostLeft(at, day, errs);
             if (most < least) {
                 least = most;
                 first = day;
@@ -394,12 +423,12 @@ public final class RiverFeet {
                 || !within(errs, 0, MOST_ERRS)) {
             return NONE;
         }
-        long minds = keptMinds(at, asDay);
-        if (minds == 0) {
+        findKept(asDay);
+        if (at.kept == 0) {
             return NONE;
         }
-        prepareAhead(at, minds, from, by, many, errs);
-        int least = ahead.planFrom(minds, k);
+        prepareAhead(at, from, by, many, errs);
+        int least = ahead.planFrom(at.kept, k);
         told.clear();
         told.put(ahead.firstSlot == NONE ? NONE : from + by * ahead.firstSlot);
         return least;
@@ -411,18 +440,12 @@ public final class RiverFeet {
                 || !within(errs, 0, MOST_ERRS)) {
             return NONE;
         }
-        long minds = keptMinds(at, asDay);
-        if (minds == 0) {
+        findKept(asDay);
+        if (at.kept == 0) {
             return NONE;
         }
-        prepareAhead(at, minds, from, by, many, errs);
-        long yes = at.mindsThatSayYes(minds, day, question);
-        for (int k = 0; k <= MOST_LOOKS_PLANNED; k++) {
-            if (ahead.canSettle(minds, yes, 0, k)) {
-                return k;
-            }
-        }
-        return -2;
+        prepareAhead(at, from, by, many, errs);
+        return ahead.fewestToSettle(at.kept, at.mindsThatSayYes(at.kept, day, question));
     }
 
     private static boolean isRowOfDays(int from, int by, int many) {
@@ -430,10 +453,10 @@ public final class RiverFeet {
                 && isDay(from + by * (many - 1));
     }
 
-    private void prepareAhead(Pier pier, long minds, int from, int by, int many, int errs) {
+    private void prepareAhead(Pier pier, int from, int by, int many, int errs) {
         ahead.clear();
         for (int i = 0; i < many; i++) {
-            ahead.addDay(pier, minds, from + by * i, errs);
+            ahead.addDay(pier, from + by * i, errs);
         }
     }
 
@@ -454,6 +477,7 @@ public final class RiverFeet {
         if (at == null) {
             return -100;
         }
+        findKept(asDay);
         long proved = 0;
         for (int i = 0; i < many; i++) {
             int mind = steps.mind[i];
@@ -463,7 +487,7 @@ public final class RiverFeet {
             }
             proved |= 1L << mind;
         }
-        return (proved | at.freeMinds(asDay)) == -1L ? 0 : 1;
+        return (proved | at.free) == -1L ? 0 : 1;
     }
 
     public int lay(int pier) {
@@ -471,6 +495,7 @@ public final class RiverFeet {
         if (at == null) {
             return NONE;
         }
+        findKept(asDay);
         steps.clear();
         for (int mind = 0; mind < MINDS; mind++) {
             int look = at.firstThatBars(mind, asDay);
@@ -514,6 +539,7 @@ public final class RiverFeet {
         if (over == null || !isDay(day) || !within(p, 0, 1000)) {
             return NONE;
         }
+        findKept(day);
         return p < openFrom(over, day) ? 1 : 0;
     }
 
@@ -538,10 +564,10 @@ public final class RiverFeet {
         }
         watchDays(over, from, to);
         int bestShare = 0;
-        int least = Integer.MAX_VALUE;
+        int least = 0;
         for (int p = 0; p <= 1000; p += 100) {
             int sum = over.traffic * watch.shutDays(p) + weight * watch.lateDays(p);
-            if (sum <= least) {
+            if (p == 0 || sum <= least) {
                 least = sum;
                 bestShare = p;
             }
@@ -558,28 +584,28 @@ public final class RiverFeet {
     private void watchDays(Bridge bridge, int from, int to) {
         watch.clear();
         for (int day = from; day <= to; day++) {
+            findKept(day);
             watch.addDay(openFrom(bridge, day), worstByTruth(bridge, day));
         }
     }
 
-    /** The least share by which a bridge is open on a day; 1001 where a pier quarrels, as no share opens it then. */
+    /** The least share by which a bridge is open as a day ends; NEVER where a pier quarrels. */
     private int openFrom(Bridge bridge, int day) {
         int least = 0;
         for (int i = 0; i < piers.size(); i++) {
             if (bridge.has(i)) {
-                least = Math.max(least, openFrom(piers.get(i), day));
+                least = Math.max(least, pierOpenFrom(piers.get(i), day));
             }
         }
         return least;
     }
 
-    private int openFrom(Pier pier, int day) {
-        long minds = keptMinds(pier, day);
-        int many = Long.bitCount(minds);
+    private static int pierOpenFrom(Pier pier, int day) {
+        int many = Long.bitCount(pier.kept);
         if (many == 0) {
-            return 1001;
+            return NEVER;
         }
-        int notStanding = many - Long.bitCount(pier.mindsInState(minds, day, STANDS));
+        int notStanding = many - Long.bitCount(pier.mindsInState(pier.kept, day, STANDS));
         return (1000 * notStanding + many - 1) / many;
     }
 
@@ -588,6 +614,7 @@ public final class RiverFeet {
         for (int i = 0; i < piers.size(); i++) {
             if (bridge.has(i)) {
                 Pier pier = piers.get(i);
+                pier.tellMind(pier.trueMind, day);
                 worst = Math.max(worst, pier.stateBy(pier.trueMind, day));
             }
         }
@@ -630,12 +657,12 @@ public final class RiverFeet {
         return most;
     }
 
-    /** Of each pier how many piles more make it surely not fallen; of one that quarrels more than all offers give. */
+    /** Of each pier how many piles more make it surely not fallen; NEVER where it quarrels. */
     private void findLacking(int day) {
+        findKept(asDay);
         for (int i = 0; i < piers.size() && i < lacking.length; i++) {
             Pier pier = piers.get(i);
-            long minds = keptMinds(pier, asDay);
-            lacking[i] = minds == 0 ? Integer.MAX_VALUE : pier.greatestEver(minds, day) - pier.foot - pier.piles;
+            lacking[i] = pier.kept == 0 ? NEVER : pier.greatestEver(day) - pier.foot - pier.piles;
         }
     }
 
@@ -706,9 +733,10 @@ public final class RiverFeet {
     }
 
     private int quarrelling() {
+        findKept(asDay);
         int many = 0;
         for (int i = 0; i < piers.size(); i++) {
-            if (keptMinds(piers.get(i), asDay) == 0) {
+            if (piers.get(i).kept == 0) {
                 many++;
             }
         }
@@ -765,6 +793,9 @@ public final class RiverFeet {
         final int[] daysTold = new int[MINDS];
         final ArrayList<Look> looks = new ArrayList<>();
         int trueMind = 0;
+        /** As the last findKept found them. */
+        long free = 0;
+        long kept = 0;
 
         Pier(int bed, int width, int rock, int foot, int piles, int[] flow) {
             this.bed = bed;
@@ -795,16 +826,18 @@ public final class RiverFeet {
         }
 
         int goalBy(int mind, int day) {
-            int a = mind / FILLINGS + 1;
-            return Math.min(rock, a * flow[day] * width[day] / 100);
+            int a = mind / DIFFERENT_B + 1;
+            int goal = a * flow[day] * width[day] / 100;
+            return goal < rock ? goal : rock;
         }
 
+        /** Of a story that is told up to that day; so with everBy and stateBy. */
         int holeBy(int mind, int day) {
-            return storyBy(mind, day) & 255;
+            return story[mind * DAYS + day] & 255;
         }
 
         int everBy(int mind, int day) {
-            return storyBy(mind, day) >> 8;
+            return story[mind * DAYS + day] >> 8;
         }
 
         int stateBy(int mind, int day) {
@@ -812,34 +845,36 @@ public final class RiverFeet {
             if (ever <= foot) {
                 return STANDS;
             }
-            return ever <= foot + piles ? STANDS + 1 : FALLEN;
+            return ever <= foot + piles ? HANGS : FALLEN;
         }
 
-        private int storyBy(int mind, int day) {
-            if (daysTold[mind] <= day) {
-                tellUpTo(mind, day);
+        void tellMinds(long minds, int last) {
+            for (int mind = 0; mind < MINDS; mind++) {
+                if (daysTold[mind] <= last && holds(minds, mind)) {
+                    tellMind(mind, last);
+                }
             }
-            return story[mind * DAYS + day];
         }
 
-        private void tellUpTo(int mind, int last) {
+        void tellMind(int mind, int last) {
             int first = daysTold[mind];
             int before = first > 0 ? story[mind * DAYS + first - 1] : 0;
             int hole = before & 255;
             int ever = before >> 8;
             for (int day = first; day <= last; day++) {
                 int rest = goalBy(mind, day) - hole;
-                hole += rest > 0 ? (rest + 1) / 2 : -(-rest * (mind % FILLINGS) / 8);
+                hole += rest > 0 ? (rest + 1) / 2 : -(-rest * (mind % DIFFERENT_B) / 8);
                 ever = Math.max(ever, hole);
                 story[mind * DAYS + day] = ever << 8 | hole;
             }
-            daysTold[mind] = last + 1;
+            daysTold[mind] = Math.max(first, last + 1);
         }
 
-        int greatestEver(long minds, int day) {
+        int greatestEver(int day) {
+            tellMinds(kept, day);
             int greatest = 0;
             for (int mind = 0; mind < MINDS; mind++) {
-                if (holds(minds, mind)) {
+                if (holds(kept, mind)) {
                     greatest = Math.max(greatest, everBy(mind, day));
                 }
             }
@@ -847,6 +882,7 @@ public final class RiverFeet {
         }
 
         long mindsInState(long minds, int day, int state) {
+            tellMinds(minds, day);
             long found = 0;
             for (int mind = 0; mind < MINDS; mind++) {
                 if (holds(minds, mind) && stateBy(mind, day) == state) {
@@ -865,7 +901,7 @@ public final class RiverFeet {
             for (int i = 0; i < looks.size(); i++) {
                 Look look = looks.get(i);
                 if (look.isKnown(onDay)) {
-                    barred |= look.barredMinds();
+                    barred |= look.barred;
                 }
             }
             return ~barred;
@@ -891,7 +927,7 @@ public final class RiverFeet {
         }
     }
 
-    /** A look; which minds it bars is kept until flows or trees change what it looked at. */
+    /** A look; which minds it bars is right while fresh: until flows or trees change what it looked at. */
     private static final class Look {
         final int number;
         final Pier pier;
@@ -917,25 +953,21 @@ public final class RiverFeet {
         }
 
         boolean barsKnown(int mind, int onDay) {
-            return isKnown(onDay) && holds(barredMinds(), mind);
+            return isKnown(onDay) && holds(barred, mind);
         }
 
-        long barredMinds() {
-            if (!fresh) {
-                barred = findBarred();
-                fresh = true;
+        void freshen() {
+            if (fresh) {
+                return;
             }
-            return barred;
-        }
-
-        private long findBarred() {
-            long found = 0;
+            pier.tellMinds(-1L, day);
+            barred = 0;
             for (int mind = 0; mind < MINDS; mind++) {
                 if (Math.abs(pier.holeBy(mind, day) - seen) > errs) {
-                    found |= 1L << mind;
+                    barred |= 1L << mind;
                 }
             }
-            return found;
+            fresh = true;
         }
     }
 
@@ -947,7 +979,7 @@ public final class RiverFeet {
         final long[] having = new long[MOST_DAYS_PLANNED * MINDS];
         final long[] leaving = new long[MOST_DAYS_PLANNED * MINDS];
         final int[] sights = new int[MOST_DAYS_PLANNED];
-        /** At h: the minds whose hole is h; then at h + 1 of notAbove: those whose hole is not above h. */
+        /** At h: the minds whose hole is h; notAbove at h + 1: those whose hole is not above h. */
         final long[] withHole = new long[DEEPEST + 1];
         final long[] notAbove = new long[DEEPEST + 2];
         int slots = 0;
@@ -957,11 +989,11 @@ public final class RiverFeet {
             slots = 0;
         }
 
-        void addDay(Pier pier, long minds, int day, int errs) {
+        void addDay(Pier pier, int day, int errs) {
             if (slots >= MOST_DAYS_PLANNED) {
                 return;
             }
-            sortByHole(pier, minds, day);
+            sortByHole(pier, day);
             int many = 0;
             for (int hole = 0; hole <= DEEPEST && many < MINDS; hole++) {
                 if (withHole[hole] != 0) {
@@ -976,10 +1008,11 @@ public final class RiverFeet {
             slots++;
         }
 
-        private void sortByHole(Pier pier, long minds, int day) {
+        private void sortByHole(Pier pier, int day) {
+            pier.tellMinds(pier.kept, day);
             Arrays.fill(withHole, 0L);
             for (int mind = 0; mind < MINDS; mind++) {
-                if (holds(minds, mind)) {
+                if (holds(pier.kept, mind)) {
                     withHole[pier.holeBy(mind, day)] |= 1L << mind;
                 }
             }
@@ -988,9 +1021,9 @@ public final class RiverFeet {
             }
         }
 
-        int mostLeft(Pier pier, long minds, int day, int errs) {
+        int mostLeft(Pier pier, int day, int errs) {
             clear();
-            addDay(pier, minds, day, errs);
+            addDay(pier, day, errs);
             int most = 0;
             for (int i = 0; i < sights[0]; i++) {
                 most = Math.max(most, Long.bitCount(leaving[i]));
@@ -1041,7 +1074,17 @@ public final class RiverFeet {
             return worst;
         }
 
-        boolean canSettle(long minds, long yes, int from, int looks) {
+        /** How many looks do, whatever is seen; -2: three do not. */
+        int fewestToSettle(long minds, long yes) {
+            for (int looks = 0; looks <= MOST_LOOKS_PLANNED; looks++) {
+                if (canSettle(minds, yes, 0, looks)) {
+                    return looks;
+                }
+            }
+            return -2;
+        }
+
+        private boolean canSettle(long minds, long yes, int from, int looks) {
             if ((minds & yes) == 0 || (minds & ~yes) == 0) {
                 return true;
             }
