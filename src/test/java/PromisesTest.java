@@ -920,6 +920,20 @@ public final class PromisesTest {
     y.pier(0, 20, 200, 99, 99);
     due("sure without", y.choose(0, 399), 1);
     row(y, 0, 0);
+    y.pier(0, 20, 200, 0, 0);
+    due("no hole, no foot", y.choose(0, 399), 2);
+    RiverFeet z = new RiverFeet();
+    z.bed();
+    z.pier(0, 20, 200, 5, 3);
+    z.flows(0, 2, 3, 50, 0);
+    z.look(0, 2, 9, 0, 2);
+    z.look(0, 3, 9, 0, 3);
+    due("mind 0 alone", z.minds(0), 1);
+    row(z, 0);
+    due("it falls", z.choose(0, 3), 0);
+    z.offer(0, 1, 1);
+    due("a pile more", z.choose(1, 3), 1);
+    row(z, 1, 1);
   }
 
   private static void count() {
