@@ -508,6 +508,16 @@ public final class PromisesTest {
     due("B 0 at 200, the others each B", x.worst(0, 20, 0), 8);
     due("errs 25", x.worst(0, 20, 25), 24);
     due("two looks", x.plan(0, 20, 1, 2, 2, 25), 24);
+    RiverFeet y = new RiverFeet();
+    y.bed();
+    y.pier(0, 18, 200, 5, 5);
+    y.tree(0, 0, 20);
+    y.tree(0, 0, 3);
+    int[] flows = {14, 83, 7, 68};
+    for (int day = 0; day < 4; day++) y.flows(day, 2, 1, flows[day], 0);
+    due("each mind another hole", y.worst(0, 3, 0), 1);
+    due("one look tells all", y.plan(0, 3, 1, 1, 1, 0), 1);
+    row(y, 3);
     x.look(0, 20, 200, 0, 20);
     due("B 0", x.minds(0), 8);
     row(x, 0, 8, 16, 24, 32, 40, 48, 56);
