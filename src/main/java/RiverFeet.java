@@ -35,8 +35,12 @@ public final class RiverFeet {
     private static final int FALLEN = 2;
     /** Above every share, and more piles than ten offers can give. */
     private static final int NEVER = 1001;
+    private static final int DAYS_A_MARK = 40;
+    private static final int MARKS = DAYS / DAYS_A_MARK;
 
     private final int[] flow = new int[DAYS];
+    /** Of each pier the row of its stories (see Pier): large, so it is made here, not by the call that tells the pier. */
+    private final int[][] stories = new int[MOST_PIERS][(1 + MARKS) * MINDS];
     private final ArrayList<Pier> piers = new ArrayList<>();
     private final ArrayList<Look> looks = new ArrayList<>();
     private final ArrayList<Bridge> bridges = new ArrayList<>();
@@ -90,6 +94,9 @@ public final class RiverFeet {
         for (int i = 0; i < piers.size(); i++) {
             piers.get(i).forgetFrom(day);
         }
+        for (int i = 0; i < looks.size(); i++) {
+            looks.get(i).forgetFrom(day);
+        }
     }
 
     public int flow(int day) {
@@ -107,11 +114,12 @@ public final class RiverFeet {
     public int pier(int bed, int width, int rock, int foot, int piles) {
         boolean right = within(bed, 0, beds - 1) && within(width, 1, MOST_WIDTH)
                 && within(rock, 1, DEEPEST) && within(foot, 0, 99) && within(piles, 0, 99);
-        if (!right || piers.size() >= MOST_PIERS) {
+        int number = piers.size();
+        if (!right || number >= MOST_PIERS) {
             return NONE;
         }
-        piers.add(new Pier(bed, width, rock, foot, piles, flow));
-        return piers.size() - 1;
+        piers.add(new Pier(bed, width, rock, foot, piles, flow, stories[number]));
+        return number;
     }
 
     public int tree(int pier, int day, int wider) {
@@ -119,7 +127,8 @@ public final class RiverFeet {
         if (at == null || !isDay(day) || !within(wider, 1, MOST_WIDER) || trees >= MOST_TREES) {
             return NONE;
         }
-        at.widen(day, wider);
+        at.trees = new Tree(day, wider, at.trees);
+        forgetFrom(day);
         trees++;
         return trees;
     }
@@ -131,16 +140,16 @@ public final class RiverFeet {
         if (at == null || !isMind(mind) || !isDay(day)) {
             return NONE;
         }
-        at.tellMind(mind, day);
+        at.goTo(day);
         switch (what) {
             case 0:
-                return at.holeBy(mind, day);
+                return at.holeBy(mind);
             case 1:
-                return at.everBy(mind, day);
+                return at.everBy(mind);
             case 2:
                 return at.goalBy(mind, day);
             case 3:
-                return at.stateBy(mind, day);
+                return at.stateBy(mind);
             default:
                 return NONE;
         }
@@ -151,14 +160,7 @@ public final class RiverFeet {
         if (at == null || !isMind(mind) || !within(what, 0, 1)) {
             return NONE;
         }
-        int least = what == 0 ? HANGS : FALLEN;
-        at.tellMind(mind, DAYS - 1);
-        for (int day = 0; day < DAYS; day++) {
-            if (at.stateBy(mind, day) >= least) {
-                return day;
-            }
-        }
-        return NONE;
+        return at.firstDay(mind, what == 0 ? HANGS : FALLEN);
     }
 
     public int kept(int pier, int mind) {
@@ -201,13 +203,19 @@ public final class RiverFeet {
      * Each call that asks for any of these does this first.
      */
     private void findKept(int onDay) {
+        for (int i = 0; i < piers.size(); i++) {
+            piers.get(i).free = -1L;
+        }
         for (int i = 0; i < looks.size(); i++) {
-            looks.get(i).freshen();
+            Look look = looks.get(i);
+            look.freshen();
+            if (look.isKnown(onDay)) {
+                look.pier.free &= ~look.barred;
+            }
         }
         Arrays.fill(sharedA, ALL_A);
         for (int i = 0; i < piers.size(); i++) {
             Pier pier = piers.get(i);
-            pier.free = pier.freeMinds(onDay);
             sharedA[pier.bed] &= bitsOfA(pier.free);
         }
         for (int i = 0; i < piers.size(); i++) {
@@ -245,10 +253,8 @@ public final class RiverFeet {
         if (!right || looks.size() >= MOST_LOOKS) {
             return NONE;
         }
-        Look look = new Look(looks.size(), at, day, seen, errs, known);
-        looks.add(look);
-        at.looks.add(look);
-        return look.number;
+        looks.add(new Look(at, day, seen, errs, known));
+        return looks.size() - 1;
     }
 
     public boolean back(int look, int day) {
@@ -285,9 +291,9 @@ public final class RiverFeet {
         }
         findKept(asDay);
         long barredByOthers = 0;
-        for (int i = 0; i < which.pier.looks.size(); i++) {
-            Look other = which.pier.looks.get(i);
-            if (other != which && other.isKnown(asDay)) {
+        for (int i = 0; i < looks.size(); i++) {
+            Look other = looks.get(i);
+            if (other != which && other.pier == which.pier && other.isKnown(asDay)) {
                 barredByOthers |= other.barred;
             }
         }
@@ -303,7 +309,7 @@ public final class RiverFeet {
         int fewest = MOST_LOOKS + 1;
         int first = 0;
         for (int mind = 0; mind < MINDS; mind++) {
-            int barring = at.howManyBar(mind, asDay);
+            int barring = howManyBar(at, mind);
             if (barring < fewest) {
                 fewest = barring;
                 first = mind;
@@ -311,13 +317,22 @@ public final class RiverFeet {
         }
         told.clear();
         told.put(first);
-        for (int i = 0; i < at.looks.size(); i++) {
-            Look look = at.looks.get(i);
-            if (look.barsKnown(first, asDay)) {
-                told.put(look.number);
+        for (int i = 0; i < looks.size(); i++) {
+            if (looks.get(i).barsKnown(at, first, asDay)) {
+                told.put(i);
             }
         }
         return fewest;
+    }
+
+    private int howManyBar(Pier at, int mind) {
+        int many = 0;
+        for (int i = 0; i < looks.size(); i++) {
+            if (looks.get(i).barsKnown(at, mind, asDay)) {
+                many++;
+            }
+        }
+        return many;
     }
 
     // ---- what is sure
@@ -332,7 +347,7 @@ public final class RiverFeet {
             return 4;
         }
         for (int state = STANDS; state <= FALLEN; state++) {
-            if (at.mindsInState(at.kept, day, state) == at.kept) {
+            if (at.mindsInState(day, state) == at.kept) {
                 return state;
             }
         }
@@ -353,17 +368,17 @@ public final class RiverFeet {
     }
 
     private void tellEnds(Pier at, int day) {
-        at.tellMinds(at.kept, day);
+        at.goTo(day);
         int leastHole = DEEPEST;
         int greatestHole = 0;
         int leastEver = DEEPEST;
         int greatestEver = 0;
         for (int mind = 0; mind < MINDS; mind++) {
             if (holds(at.kept, mind)) {
-                leastHole = Math.min(leastHole, at.holeBy(mind, day));
-                greatestHole = Math.max(greatestHole, at.holeBy(mind, day));
-                leastEver = Math.min(leastEver, at.everBy(mind, day));
-                greatestEver = Math.max(greatestEver, at.everBy(mind, day));
+                leastHole = Math.min(leastHole, at.holeBy(mind));
+                greatestHole = Math.max(greatestHole, at.holeBy(mind));
+                leastEver = Math.min(leastEver, at.everBy(mind));
+                greatestEver = Math.max(greatestEver, at.everBy(mind));
             }
         }
         told.clear();
@@ -380,7 +395,7 @@ public final class RiverFeet {
         }
         findKept(asDay);
         int many = Long.bitCount(at.kept);
-        return many == 0 ? NONE : 1000 * Long.bitCount(at.mindsThatSayYes(at.kept, day, question)) / many;
+        return many == 0 ? NONE : 1000 * Long.bitCount(at.mindsThatSayYes(day, question)) / many;
     }
 
     // ---- looks to come
@@ -445,7 +460,7 @@ public final class RiverFeet {
             return NONE;
         }
         prepareAhead(at, from, by, many, errs);
-        return ahead.fewestToSettle(at.kept, at.mindsThatSayYes(at.kept, day, question));
+        return ahead.fewestToSettle(at.kept, at.mindsThatSayYes(day, question));
     }
 
     private static boolean isRowOfDays(int from, int by, int many) {
@@ -482,7 +497,7 @@ public final class RiverFeet {
         for (int i = 0; i < many; i++) {
             int mind = steps.mind[i];
             Look look = lookOf(steps.look[i]);
-            if (look == null || look.pier != at || !look.barsKnown(mind, asDay) || holds(proved, mind)) {
+            if (look == null || !look.barsKnown(at, mind, asDay) || holds(proved, mind)) {
                 return -1 - i;
             }
             proved |= 1L << mind;
@@ -498,12 +513,21 @@ public final class RiverFeet {
         findKept(asDay);
         steps.clear();
         for (int mind = 0; mind < MINDS; mind++) {
-            int look = at.firstThatBars(mind, asDay);
+            int look = firstThatBars(at, mind);
             if (look != NONE) {
                 steps.add(mind, look);
             }
         }
         return steps.many;
+    }
+
+    private int firstThatBars(Pier at, int mind) {
+        for (int i = 0; i < looks.size(); i++) {
+            if (looks.get(i).barsKnown(at, mind, asDay)) {
+                return i;
+            }
+        }
+        return NONE;
     }
 
     public int proof(int i, int what) {
@@ -605,7 +629,7 @@ public final class RiverFeet {
         if (many == 0) {
             return NEVER;
         }
-        int notStanding = many - Long.bitCount(pier.mindsInState(pier.kept, day, STANDS));
+        int notStanding = many - Long.bitCount(pier.mindsInState(day, STANDS));
         return (1000 * notStanding + many - 1) / many;
     }
 
@@ -614,8 +638,8 @@ public final class RiverFeet {
         for (int i = 0; i < piers.size(); i++) {
             if (bridge.has(i)) {
                 Pier pier = piers.get(i);
-                pier.tellMind(pier.trueMind, day);
-                worst = Math.max(worst, pier.stateBy(pier.trueMind, day));
+                pier.goTo(day);
+                worst = Math.max(worst, pier.stateBy(pier.trueMind));
             }
         }
         return worst;
@@ -780,156 +804,187 @@ public final class RiverFeet {
         return within(n, 0, bridges.size() - 1) ? bridges.get(n) : null;
     }
 
-    /** A pier with the stories of its minds, each told as far as somebody asked. */
+    /**
+     * A pier, with the stories of its minds: how each is as the last day walked ends, and marks, each
+     * DAYS_A_MARK days behind the one before, of how it was then, from which no day is far.
+     */
     private static final class Pier {
         final int bed;
+        final int width;
         final int rock;
         final int foot;
         final int piles;
         final int[] flow;
-        final int[] width = new int[DAYS];
-        /** Of each mind and day 256 times EVER, and HOLE. */
-        final int[] story = new int[MINDS * DAYS];
-        final int[] daysTold = new int[MINDS];
-        final ArrayList<Look> looks = new ArrayList<>();
+        /** Of each mind 256 times EVER, and HOLE: as it is now, then as it was at mark 1, 2, .. */
+        final int[] story;
+        int daysWalked = 0;
+        int marks = 0;
+        Tree trees = null;
         int trueMind = 0;
         /** As the last findKept found them. */
         long free = 0;
         long kept = 0;
 
-        Pier(int bed, int width, int rock, int foot, int piles, int[] flow) {
+        Pier(int bed, int width, int rock, int foot, int piles, int[] flow, int[] story) {
             this.bed = bed;
+            this.width = width;
             this.rock = rock;
             this.foot = foot;
             this.piles = piles;
             this.flow = flow;
-            Arrays.fill(this.width, width);
-        }
-
-        void widen(int from, int wider) {
-            for (int day = from; day < DAYS; day++) {
-                width[day] += wider;
-            }
-            forgetFrom(from);
+            this.story = story;
         }
 
         void forgetFrom(int day) {
-            for (int mind = 0; mind < MINDS; mind++) {
-                daysTold[mind] = Math.min(daysTold[mind], day);
+            marks = Math.min(marks, day / DAYS_A_MARK);
+            if (daysWalked > day) {
+                backTo(marks);
             }
-            for (int i = 0; i < looks.size(); i++) {
-                Look look = looks.get(i);
-                if (look.day >= day) {
-                    look.fresh = false;
+        }
+
+        /** So that holeBy, everBy and stateBy tell how it is as a day ends. */
+        void goTo(int day) {
+            int mark = Math.min(marks, (day + 1) / DAYS_A_MARK);
+            if (daysWalked > day + 1 || daysWalked < mark * DAYS_A_MARK) {
+                backTo(mark);
+            }
+            for (int next = daysWalked; next <= day; next++) {
+                walk(next);
+            }
+        }
+
+        /** Mark 0 is nowhere told: it is how each story begins. */
+        private void backTo(int mark) {
+            for (int mind = 0; mind < MINDS; mind++) {
+                story[mind] = mark > 0 ? story[mark * MINDS + mind] : 0;
+            }
+            daysWalked = mark * DAYS_A_MARK;
+        }
+
+        private void walk(int day) {
+            int wide = wideOn(day);
+            for (int first = 0; first < MINDS; first += DIFFERENT_B) {
+                int goal = goalWith(wide, first, day);
+                for (int b = 0; b < DIFFERENT_B; b++) {
+                    story[first + b] = behindDay(story[first + b], goal, b);
                 }
             }
+            daysWalked = day + 1;
+            if (marks < MARKS && daysWalked == (marks + 1) * DAYS_A_MARK) {
+                putMark();
+            }
+        }
+
+        private void putMark() {
+            marks++;
+            for (int mind = 0; mind < MINDS; mind++) {
+                story[marks * MINDS + mind] = story[mind];
+            }
+        }
+
+        private static int behindDay(int before, int goal, int b) {
+            int hole = before & 255;
+            int ever = before >> 8;
+            if (goal > hole) {
+                hole += (goal - hole + 1) / 2;
+            } else {
+                hole -= (hole - goal) * b / 8;
+            }
+            return (hole > ever ? hole : ever) << 8 | hole;
         }
 
         int goalBy(int mind, int day) {
+            return goalWith(wideOn(day), mind, day);
+        }
+
+        private int wideOn(int day) {
+            int wide = width;
+            for (Tree tree = trees; tree != null; tree = tree.before) {
+                wide += tree.from <= day ? tree.wider : 0;
+            }
+            return wide;
+        }
+
+        private int goalWith(int wide, int mind, int day) {
             int a = mind / DIFFERENT_B + 1;
-            int goal = a * flow[day] * width[day] / 100;
+            int goal = a * flow[day] * wide / 100;
             return goal < rock ? goal : rock;
         }
 
-        /** Of a story that is told up to that day; so with everBy and stateBy. */
-        int holeBy(int mind, int day) {
-            return story[mind * DAYS + day] & 255;
+        int holeBy(int mind) {
+            return story[mind] & 255;
         }
 
-        int everBy(int mind, int day) {
-            return story[mind * DAYS + day] >> 8;
+        int everBy(int mind) {
+            return story[mind] >> 8;
         }
 
-        int stateBy(int mind, int day) {
-            int ever = everBy(mind, day);
+        int stateBy(int mind) {
+            return stateWith(everBy(mind));
+        }
+
+        private int stateWith(int ever) {
             if (ever <= foot) {
                 return STANDS;
             }
             return ever <= foot + piles ? HANGS : FALLEN;
         }
 
-        void tellMinds(long minds, int last) {
-            for (int mind = 0; mind < MINDS; mind++) {
-                if (daysTold[mind] <= last && holds(minds, mind)) {
-                    tellMind(mind, last);
+        /** The first day as which ends its state by a mind is so bad; NONE: never. One mind alone is walked for it. */
+        int firstDay(int mind, int state) {
+            int now = 0;
+            for (int day = 0; day < DAYS; day++) {
+                now = behindDay(now, goalBy(mind, day), mind % DIFFERENT_B);
+                if (stateWith(now >> 8) >= state) {
+                    return day;
                 }
             }
-        }
-
-        void tellMind(int mind, int last) {
-            int first = daysTold[mind];
-            int before = first > 0 ? story[mind * DAYS + first - 1] : 0;
-            int hole = before & 255;
-            int ever = before >> 8;
-            for (int day = first; day <= last; day++) {
-                int rest = goalBy(mind, day) - hole;
-                hole += rest > 0 ? (rest + 1) / 2 : -(-rest * (mind % DIFFERENT_B) / 8);
-                ever = Math.max(ever, hole);
-                story[mind * DAYS + day] = ever << 8 | hole;
-            }
-            daysTold[mind] = Math.max(first, last + 1);
+            return NONE;
         }
 
         int greatestEver(int day) {
-            tellMinds(kept, day);
+            goTo(day);
             int greatest = 0;
             for (int mind = 0; mind < MINDS; mind++) {
                 if (holds(kept, mind)) {
-                    greatest = Math.max(greatest, everBy(mind, day));
+                    greatest = Math.max(greatest, everBy(mind));
                 }
             }
             return greatest;
         }
 
-        long mindsInState(long minds, int day, int state) {
-            tellMinds(minds, day);
+        /** Of the minds kept. */
+        long mindsInState(int day, int state) {
+            goTo(day);
             long found = 0;
             for (int mind = 0; mind < MINDS; mind++) {
-                if (holds(minds, mind) && stateBy(mind, day) == state) {
+                if (holds(kept, mind) && stateBy(mind) == state) {
                     found |= 1L << mind;
                 }
             }
             return found;
         }
 
-        long mindsThatSayYes(long minds, int day, int question) {
-            return mindsInState(minds, day, question == 0 ? STANDS : FALLEN);
+        long mindsThatSayYes(int day, int question) {
+            return mindsInState(day, question == 0 ? STANDS : FALLEN);
         }
+    }
 
-        long freeMinds(int onDay) {
-            long barred = 0;
-            for (int i = 0; i < looks.size(); i++) {
-                Look look = looks.get(i);
-                if (look.isKnown(onDay)) {
-                    barred |= look.barred;
-                }
-            }
-            return ~barred;
-        }
+    /** Trees at a pier, and those told of it before. */
+    private static final class Tree {
+        final int from;
+        final int wider;
+        final Tree before;
 
-        int howManyBar(int mind, int onDay) {
-            int many = 0;
-            for (int i = 0; i < looks.size(); i++) {
-                if (looks.get(i).barsKnown(mind, onDay)) {
-                    many++;
-                }
-            }
-            return many;
-        }
-
-        int firstThatBars(int mind, int onDay) {
-            for (int i = 0; i < looks.size(); i++) {
-                if (looks.get(i).barsKnown(mind, onDay)) {
-                    return looks.get(i).number;
-                }
-            }
-            return NONE;
+        Tree(int from, int wider, Tree before) {
+            this.from = from;
+            this.wider = wider;
+            this.before = before;
         }
     }
 
     /** A look; which minds it bars is right while fresh: until flows or trees change what it looked at. */
     private static final class Look {
-        final int number;
         final Pier pier;
         final int day;
         final int seen;
@@ -939,8 +994,7 @@ public final class RiverFeet {
         boolean fresh = false;
         long barred = 0;
 
-        Look(int number, Pier pier, int day, int seen, int errs, int known) {
-            this.number = number;
+        Look(Pier pier, int day, int seen, int errs, int known) {
             this.pier = pier;
             this.day = day;
             this.seen = seen;
@@ -952,18 +1006,24 @@ public final class RiverFeet {
             return known <= onDay && onDay < backFrom;
         }
 
-        boolean barsKnown(int mind, int onDay) {
-            return isKnown(onDay) && holds(barred, mind);
+        boolean barsKnown(Pier at, int mind, int onDay) {
+            return pier == at && isKnown(onDay) && holds(barred, mind);
+        }
+
+        void forgetFrom(int changed) {
+            if (day >= changed) {
+                fresh = false;
+            }
         }
 
         void freshen() {
             if (fresh) {
                 return;
             }
-            pier.tellMinds(-1L, day);
+            pier.goTo(day);
             barred = 0;
             for (int mind = 0; mind < MINDS; mind++) {
-                if (Math.abs(pier.holeBy(mind, day) - seen) > errs) {
+                if (Math.abs(pier.holeBy(mind) - seen) > errs) {
                     barred |= 1L << mind;
                 }
             }
@@ -1009,11 +1069,11 @@ public final class RiverFeet {
         }
 
         private void sortByHole(Pier pier, int day) {
-            pier.tellMinds(pier.kept, day);
+            pier.goTo(day);
             Arrays.fill(withHole, 0L);
             for (int mind = 0; mind < MINDS; mind++) {
                 if (holds(pier.kept, mind)) {
-                    withHole[pier.holeBy(mind, day)] |= 1L << mind;
+                    withHole[pier.holeBy(mind)] |= 1L << mind;
                 }
             }
             for (int hole = 0; hole <= DEEPEST; hole++) {
