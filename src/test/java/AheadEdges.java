@@ -195,6 +195,16 @@ final class AheadEdges extends Edge {
     row(y, 64);
   }
 
+  @Says("with the least worst()")
+  static void promise22_twoAreNotTheLeastWhereOneMayBeLeft() {
+    // holes 5, 8 and 13 as day 0 ends, 8, 12 and 19 as day 1 ends
+    RiverFeet x = three(5, 5);
+    due("day 0 leaves two", x.next(0, 0, 0, 3), 0);
+    row(x, 2);
+    due("day 1 leaves one", x.next(0, 0, 2, 3), 1);
+    row(x, 1);
+  }
+
   @Says("from .. to (0 .. 399, to not below from)")
   static void promise22_fromAndToAre0To399AndToIsNotBelowFrom() {
     due("0 .. 0", busy().next(0, 0, 0, 0), 0);
@@ -230,6 +240,16 @@ final class AheadEdges extends Edge {
     RiverFeet x = mixed(59, 17, 50, 0, 50, 0, 10, 90);
     int[] want = {15, 12, 11};
     for (int k = 1; k <= 3; k++) due("k " + k, x.plan(0, 0, 1, 5, k, 2), want[k - 1]);
+  }
+
+  @Says("the WORST of the best PLAN")
+  static void promise23_twoAreNotTheBestWhereOneMayBeLeft() {
+    // holes 5, 8 and 13 as day 0 ends, 8, 12 and 19 as day 1 ends
+    RiverFeet x = three(5, 5);
+    due("day 0 leaves two", x.plan(0, 0, 1, 1, 1, 3), 2);
+    row(x, 0);
+    due("day 1 leaves one", x.plan(0, 0, 1, 2, 1, 3), 1);
+    row(x, 1);
   }
 
   @Says("the first DAY of such a PLAN (the least")
@@ -282,7 +302,7 @@ final class AheadEdges extends Edge {
     due("the sixth is among them", x.plan(0, 0, 1, 6, 1, 0), 8);
     row(x, 5);
     due("five", x.plan(0, 0, 1, 5, 1, 0), 64);
-    for (int many : outside(1, 6)) refused("many " + many, y -> y.plan(0, 0, 1, many, 1, 0));
+    for (int many : outside(1, 6)) refused("many " + many, y -> y.plan(0, 200, 1, many, 1, 0));
   }
 
   @Says("by 1 .. 50")
@@ -350,6 +370,7 @@ final class AheadEdges extends Edge {
   static void promise24_oneTwoOrThreeLooks() {
     due("one", river().settles(0, 0, 2, 0, 1, 1, 0), 1);
     due("two", mixed(40, 18, 30, 70, 10, 10, 90, 0).settles(0, 0, 5, 0, 1, 6, 1), 2);
+    due("two, on the only two days", mixed(9, 18, 70, 0, 50).settles(0, 1, 2, 0, 1, 2, 2), 2);
     due("three", mixed(59, 19, 90, 60, 0, 0, 90, 90, 90, 0, 30).settles(0, 0, 12, 0, 2, 6, 5), 3);
   }
 
@@ -393,7 +414,7 @@ final class AheadEdges extends Edge {
     refused("399, 400", y -> y.settles(0, 0, 2, 399, 1, 2, 50));
     for (int from : outside(0, 399)) refused("from " + from, y -> y.settles(0, 0, 2, from, 1, 1, 0));
     for (int by : outside(1, 50)) refused("by " + by, y -> y.settles(0, 0, 2, 0, by, 1, 0));
-    for (int many : outside(1, 6)) refused("many " + many, y -> y.settles(0, 0, 2, 0, 1, many, 0));
+    for (int many : outside(1, 6)) refused("many " + many, y -> y.settles(0, 0, 2, 200, 1, many, 0));
     RiverFeet z = flood(5, 5);
     z.flows(5, 2, 1, 50, 0);
     due("the sixth day tells", z.settles(0, 0, 5, 0, 1, 6, 0), 1);
@@ -603,6 +624,10 @@ final class AheadEdges extends Edge {
     }
     due("none behind", x.proof(56, 0), NONE);
     due("count(6)", x.count(6), 56);
+    RiverFeet y = river();
+    y.look(0, 2, 9, 0, 2);
+    due("all but A 2", y.lay(0), 56);
+    for (int i = 0; i < 56; i++) due("mind of step " + i, y.proof(i, 0), i < 8 ? i : i + 8);
   }
 
   @Says("the first LOOK that does")

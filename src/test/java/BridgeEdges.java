@@ -314,6 +314,18 @@ final class BridgeEdges extends Edge {
     row(x, 0, 2, 10);
   }
 
+  @Says("by TRUTH as that DAY ends")
+  static void promise32_term4_truthIsThatAsTheDayEndsWhereThePierQuarrelsToo() {
+    RiverFeet x = bridged(river(), 1, 5);
+    x.look(0, 0, 100, 0, 0);
+    x.truth(0, 8);
+    due("it stands as day 0 ends, then it hangs", x.run(0, 0, 2, 1000), 3);
+    row(x, 0, 1, 15);
+    x.flows(2, 2, 1, 0, 0);
+    due("day 2 alone", x.run(0, 2, 2, 1000), 1);
+    row(x, 0, 0, 5);
+  }
+
   // ---- promise 33
 
   @Says("The SHARE of 0, 100, 200, .. 1000")
@@ -472,6 +484,23 @@ final class BridgeEdges extends Edge {
       x.offer(0, 1, 1);
       due("ever 19, foot 7 and " + piles, x.choose(9999, 2), 1);
       row(x, piles == 11 ? 1 : 0, piles == 11 ? 1 : 0);
+    }
+  }
+
+  @Says("surely are not FALLEN")
+  static void promise35_noHoleWantsNoFootAndMind0IsAMindToo() {
+    RiverFeet x = flood(0, 0);
+    x.offer(0, 1, 1);
+    due("no hole, no foot, no piles", x.choose(1, 0), 1);
+    row(x, 0, 0);
+    // the looks leave mind 0 alone, by which ever is 9
+    for (int piles = 8; piles <= 9; piles++) {
+      RiverFeet y = flood(0, piles, 50, 50, 50);
+      y.look(0, 2, 9, 0, 2);
+      y.look(0, 3, 9, 0, 3);
+      y.offer(0, 1, 1);
+      due(piles + " piles", y.choose(1, 3), 1);
+      row(y, piles == 8 ? 1 : 0, piles == 8 ? 1 : 0);
     }
   }
 

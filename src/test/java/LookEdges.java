@@ -96,6 +96,15 @@ final class LookEdges extends Edge {
     due("each B of A 8", x.minds(0), 8);
     row(x, 56, 57, 58, 59, 60, 61, 62, 63);
     due("another A", x.kept(0, 55), 2);
+    RiverFeet y = river();
+    y.pier(0, 10, 200, 5, 5);
+    y.look(1, 2, 35, 0, 2);
+    y.look(1, 3, 35, 0, 3);
+    due("of the other pier mind 56 alone", y.minds(1), 1);
+    row(y, 56);
+    due("each B of A 8", y.minds(0), 8);
+    row(y, 56, 57, 58, 59, 60, 61, 62, 63);
+    due("shared", y.shared(0), 128);
   }
 
   @Says("each other PIER of its BED")
@@ -659,8 +668,18 @@ final class LookEdges extends Edge {
     RiverFeet x = river();
     x.look(0, 2, 35, 0, 2);
     x.look(0, 3, 5, 0, 3);
-    due("one", x.ends(0, 3), 1);
+    due("mind 63", x.ends(0, 3), 1);
     row(x, 5, 5, 35, 35);
+    RiverFeet y = mind0();
+    due("mind 0", y.ends(0, 3), 1);
+    row(y, 9, 9, 9, 9);
+  }
+  /** By A 1 the hole is 9 as day 2 ends; by B 0 alone it is 9 as day 3 ends too. */
+  private static RiverFeet mind0() {
+    RiverFeet x = flood(5, 5, 50, 50, 50);
+    x.look(0, 2, 9, 0, 2);
+    x.look(0, 3, 9, 0, 3);
+    return x;
   }
 
   @Says("of MINDS KEPT")

@@ -186,9 +186,49 @@ final class RiverEdges extends Edge {
     due("hole", x.hole(0, 39, 2, 0), 14);
     due("bars", x.bars(0), 64);
     x.flows(2, 2, 1, 18, 0);
-    due("hole of the day ahead", x.hole(0, 39, 1, 0), 12);
     due("hole", x.hole(0, 39, 2, 0), 15);
+    due("hole of the day ahead", x.hole(0, 39, 1, 0), 12);
     due("bars", x.bars(0), 56);
+    x.flows(1, 2, 1, 17, 0);
+    due("hole of the day behind", x.hole(0, 39, 2, 0), 16);
+    due("bars", x.bars(0), 64);
+    x.flows(3, 2, 1, 99, 0);
+    due("hole of the day ahead", x.hole(0, 39, 2, 0), 16);
+  }
+
+  @Says("FLOWS from a DAY on")
+  static void promise2_flowsToldAgainChangeAllDaysBehindThem() {
+    for (int day : CHANGED) {
+      RiverFeet asked = twoPiersInAFlood();
+      due("hole ahead", asked.hole(0, 39, 399, 0) >= 0 && asked.hole(1, 62, 399, 0) >= 0, true);
+      RiverFeet notAsked = twoPiersInAFlood();
+      asked.flows(day, 2, 1, 99, 0);
+      notAsked.flows(day, 2, 1, 99, 0);
+      sameStories(day, asked, notAsked);
+    }
+  }
+
+  private static final int[] CHANGED = {0, 1, 38, 39, 40, 41, 79, 80, 81, 200, 398, 399};
+
+  private static RiverFeet twoPiersInAFlood() {
+    RiverFeet x = flood(9, 9, 60, 2);
+    x.pier(0, 11, 100, 9, 9);
+    for (int day = 2; day < 400; day += 60) x.flows(day, 2, 60, 9, 0);
+    return x;
+  }
+
+  /** Stories asked for ahead of a change on a day and behind it are those that were asked for behind it alone. */
+  private static void sameStories(int changed, RiverFeet asked, RiverFeet notAsked) {
+    for (int day : new int[] {399, changed, 0, 39, 40, 79, 80, 398}) {
+      for (int pier = 0; pier < 2; pier++) {
+        for (int mind : new int[] {32, 33, 39, 63}) {
+          for (int what = 0; what < 2; what++) {
+            String call = "changed on day " + changed + ": hole(" + pier + ", " + mind + ", " + day + ", " + what + ")";
+            due(call, asked.hole(pier, mind, day, what), notAsked.hole(pier, mind, day, what));
+          }
+        }
+      }
+    }
   }
 
   @Says("no such DAY")
@@ -441,7 +481,9 @@ final class RiverEdges extends Edge {
     RiverFeet x = river();
     due("tree", x.tree(0, 1, 10), 1);
     due("the day ahead", x.hole(0, 0, 0, 2), 5);
+    due("the day ahead, A 8", x.hole(0, 56, 0, 2), 40);
     due("their day", x.hole(0, 0, 1, 2), 10);
+    due("their day, A 8", x.hole(0, 56, 1, 2), 80);
     due("the day behind", x.hole(0, 0, 2, 2), 10);
     due("tree", x.tree(0, 2, 4), 2);
     due("the day ahead of the second", x.hole(0, 0, 1, 2), 10);
@@ -455,9 +497,21 @@ final class RiverEdges extends Edge {
     due("hole", x.hole(0, 0, 1, 0), 4);
     due("bars", x.bars(0), 64);
     x.tree(0, 1, 10);
-    due("hole of the day ahead", x.hole(0, 0, 0, 0), 3);
     due("hole", x.hole(0, 0, 1, 0), 7);
+    due("hole of the day ahead", x.hole(0, 0, 0, 0), 3);
     due("bars", x.bars(0), 56);
+  }
+
+  @Says("TREES at a PIER from a DAY on")
+  static void promise6_treesChangeAllDaysBehindThem() {
+    for (int day : CHANGED) {
+      RiverFeet asked = twoPiersInAFlood();
+      due("hole ahead", asked.hole(0, 39, 399, 0) >= 0 && asked.hole(1, 62, 399, 0) >= 0, true);
+      RiverFeet notAsked = twoPiersInAFlood();
+      asked.tree(1, day, 20);
+      notAsked.tree(1, day, 20);
+      sameStories(day, asked, notAsked);
+    }
   }
 
   @Says("TREES at a PIER")
