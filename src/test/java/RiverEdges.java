@@ -221,7 +221,7 @@ final class RiverEdges extends Edge {
   private static void sameStories(int changed, RiverFeet asked, RiverFeet notAsked) {
     for (int day : new int[] {399, changed, 0, 39, 40, 79, 80, 398}) {
       for (int pier = 0; pier < 2; pier++) {
-        for (int mind : new int[] {32, 33, 39, 63}) {
+        for (int mind : new int[] {0, 33, 39, 63}) {
           for (int what = 0; what < 2; what++) {
             String call = "changed on day " + changed + ": hole(" + pier + ", " + mind + ", " + day + ", " + what + ")";
             due(call, asked.hole(pier, mind, day, what), notAsked.hole(pier, mind, day, what));
@@ -601,16 +601,19 @@ final class RiverEdges extends Edge {
 
   @Says("as a DAY ends")
   static void promise7_daysMayBeAskedInAnyOrder() {
-    RiverFeet x = flood(99, 99, 99, 1);
-    for (int day = 2; day < 400; day += 60) x.flows(day, 2, 60, 20, 1);
-    RiverFeet y = flood(99, 99, 99, 1);
-    for (int day = 2; day < 400; day += 60) y.flows(day, 2, 60, 20, 1);
-    int[] ascending = new int[16];
+    RiverFeet x = twoPiersInAFlood();
+    RiverFeet y = twoPiersInAFlood();
     int[] days = {0, 1, 38, 39, 40, 41, 79, 80, 81, 120, 199, 200, 358, 360, 398, 399};
-    for (int i = 0; i < days.length; i++) ascending[i] = x.hole(0, 39, days[i], 0);
-    for (int i = days.length - 1; i >= 0; i--) due("day " + days[i], y.hole(0, 39, days[i], 0), ascending[i]);
-    due("day 0", y.hole(0, 39, 0, 0), 50);
-    due("day 1", y.hole(0, 39, 1, 0), 8);
+    int[] minds = {0, 39, 63};
+    int[][] ascending = new int[minds.length][days.length];
+    for (int i = 0; i < days.length; i++) {
+      for (int m = 0; m < minds.length; m++) ascending[m][i] = x.hole(0, minds[m], days[i], 0);
+    }
+    for (int i = days.length - 1; i >= 0; i--) {
+      for (int m = 0; m < minds.length; m++) due("mind " + minds[m] + ", day " + days[i], y.hole(0, minds[m], days[i], 0), ascending[m][i]);
+    }
+    due("day 0", y.hole(0, 39, 0, 0), 30);
+    due("day 1", y.hole(0, 39, 1, 0), 6);
   }
 
   // ---- promise 8
