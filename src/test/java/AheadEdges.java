@@ -252,6 +252,20 @@ final class AheadEdges extends Edge {
     row(x, 1);
   }
 
+  @Says("whatever is seen")
+  static void promise23_term3_aMindMoreThanTheSightBeforeLeftCounts() {
+    // minds 0, 1 and 2, holes 8, 7 and 6 as day 3 ends: seen 6 leaves two, seen 7 leaves mind 0 too
+    RiverFeet x = mixed(5, 5, 90, 90, 90, 0);
+    x.look(0, 1, 8, 1, 1);
+    x.look(0, 3, 7, 1, 3);
+    due("minds", x.minds(0), 3);
+    row(x, 0, 1, 2);
+    due("errs 1", x.plan(0, 3, 1, 1, 1, 1), 3);
+    row(x, NONE);
+    due("errs 0", x.plan(0, 3, 1, 1, 1, 0), 1);
+    row(x, 3);
+  }
+
   @Says("the first DAY of such a PLAN (the least")
   static void promise23_ofEqualPlansTheLeastFirstDay() {
     RiverFeet x = river();
